@@ -1,0 +1,50 @@
+/** Compares answers with what is due and ends the program with 1 if one was wrong. */
+final class Due {
+    private int wrong;
+    private int asked;
+
+    void is(String call, long got, long want) {
+        asked++;
+        if (got != want) {
+            wrong++;
+            System.out.println(call + " answered " + got + ", due is " + want);
+        }
+    }
+
+    void isTrue(String what, boolean holds) {
+        is(what, holds ? 1 : 0, 1);
+    }
+
+    /** The eight fields of event i. */
+    void event(LifecycleEngine x, int i, int... want) {
+        for (int what = 0; what < 8; what++) {
+            is("event(" + i + ", " + what + ")", x.event(i, what), want[what]);
+        }
+    }
+
+    /** A STARTED or SKIPPED event, whose last four fields are 0. */
+    void plain(LifecycleEngine x, int i, int kind, int node, int round, int time) {
+        event(x, i, kind, node, round, time, 0, 0, 0, 0);
+    }
+
+    /** The troubles of event i from the first on; all behind them are NONE. */
+    void troubles(LifecycleEngine x, int i, int... want) {
+        for (int k = 0; k < 6; k++) {
+            is("trouble(" + i + ", " + k + ")", x.trouble(i, k), k < want.length ? want[k] : LifecycleEngine.NONE);
+        }
+    }
+
+    /** count(0), count(1) and so on. */
+    void counts(LifecycleEngine x, int... want) {
+        for (int what = 0; what < want.length; what++) {
+            is("count(" + what + ")", x.count(what), want[what]);
+        }
+    }
+
+    void end() {
+        System.out.println(asked + " answers, " + wrong + " wrong");
+        if (wrong != 0) {
+            System.exit(1);
+        }
+    }
+}
