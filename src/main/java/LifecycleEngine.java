@@ -111,10 +111,14 @@ public final class LifecycleEngine {
     }
 
     public int without(int node, int kind) {
-        if (!tree.isContainer(node) || !tree.mayHave(node, kind) || !methods.has(node, kind)) {
+        if (!tree.isContainer(node) || !tree.mayHave(node, kind)) {
             return REFUSED;
         }
-        methods.take(node, kind);
+        int place = Methods.placeOf(node, kind);
+        if (!methods.isThere(place)) {
+            return REFUSED;
+        }
+        methods.takeAt(place);
         return DONE;
     }
 
@@ -293,7 +297,7 @@ public final class LifecycleEngine {
         }
     }
 
-    /** The METHODS of all nodes. */
+    /** The METHODS of all nodes, each at a place of its own; only for kinds that the node may have. */
     private static final class Methods {
         private final boolean[] there;
         private final int[] results;
@@ -307,7 +311,7 @@ public final class LifecycleEngine {
             lengths = new int[MAX_NODES * KINDS];
         }
 
-        private static int placeOf(int node, int kind) {
+        static int placeOf(int node, int kind) {
             return node * KINDS + kind;
         }
 
@@ -325,24 +329,24 @@ public final class LifecycleEngine {
             lengths[place] = length;
         }
 
-        void take(int node, int kind) {
-            there[placeOf(node, kind)] = false;
+        void takeAt(int place) {
+            there[place] = false;
         }
 
-        boolean has(int node, int kind) {
-            return there[placeOf(node, kind)];
+        boolean isThere(int place) {
+            return there[place];
         }
 
-        int resultOf(int node, int kind) {
-            return results[placeOf(node, kind)];
+        int resultAt(int place) {
+            return results[place];
         }
 
-        int codeOf(int node, int kind) {
-            return codes[placeOf(node, kind)];
+        int codeAt(int place) {
+            return codes[place];
         }
 
-        int lengthOf(int node, int kind) {
-            return lengths[placeOf(node, kind)];
+        int lengthAt(int place) {
+            return lengths[place];
         }
     }
 
@@ -709,20 +713,21 @@ public final class LifecycleEngine {
         }
 
         private void callIfThere(int node, int kind, Troubles list) {
-            if (!methods.has(node, kind)) {
+            int place = Methods.placeOf(node, kind);
+            if (!methods.isThere(place)) {
                 return;
             }
             calls++;
-            int length = methods.lengthOf(node, kind);
+            int length = methods.lengthAt(place);
             if (kind >= BODY && length > tree.deadlineOf(node)) {
                 time += tree.deadlineOf(node);
                 list.join(CODE_TOO_LONG, false);
                 return;
             }
             time += length;
-            int result = methods.resultOf(node, kind);
+            int result = methods.resultAt(place);
             if (result != RETURNS) {
-                list.join(methods.codeOf(node, kind), result == GIVES_UP);
+                list.join(methods.codeAt(place), result == GIVES_UP);
             }
         }
 

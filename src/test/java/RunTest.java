@@ -233,6 +233,9 @@ public final class RunTest {
         x.method(1, 6, 2, 30, 7);
         x.run(0, 0, 0);
         due.event(x, 6, 2, 1, 2, 171, 2, 30, 0, 3);
+        x.method(1, 4, 1, 31, 9);
+        x.run(0, 0, 0);
+        due.event(x, 2, 2, 1, 0, 57, 1, 100, 0, 1);
     }
 
     private static void firstTroubleDecides() {
