@@ -2,17 +2,31 @@
 final class Due {
     private int wrong;
     private int asked;
+    private String sentence = "";
+
+    /** What is asked from now on tells of these words of the document. */
+    void sentence(String words) {
+        sentence = "\"" + words + "\": ";
+    }
 
     void is(String call, long got, long want) {
         asked++;
         if (got != want) {
             wrong++;
-            System.out.println(call + " answered " + got + ", due is " + want);
+            System.out.println(sentence + call + " answered " + got + ", due is " + want);
         }
     }
 
     void isTrue(String what, boolean holds) {
         is(what, holds ? 1 : 0, 1);
+    }
+
+    void same(String what, String got, String want) {
+        asked++;
+        if (!got.equals(want)) {
+            wrong++;
+            System.out.println(sentence + what + " is\n" + got + "\ndue is\n" + want);
+        }
     }
 
     /** The eight fields of event i. */
@@ -25,6 +39,14 @@ final class Due {
     /** A STARTED or SKIPPED event, whose last four fields are 0. */
     void plain(LifecycleEngine x, int i, int kind, int node, int round, int time) {
         event(x, i, kind, node, round, time, 0, 0, 0, 0);
+    }
+
+    /** The nodes of all events, in order, and that there are no more. */
+    void nodes(LifecycleEngine x, int... want) {
+        is("events", x.count(1), want.length);
+        for (int i = 0; i < want.length; i++) {
+            is("event(" + i + ", 1)", x.event(i, 1), want[i]);
+        }
     }
 
     /** The troubles of event i from the first on; all behind them are NONE. */

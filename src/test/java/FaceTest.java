@@ -18,9 +18,13 @@ public final class FaceTest {
             "method(int, int, int, int, int)", "without(int, int)", "run(int, int, int)",
             "event(int, int)", "trouble(int, int)", "count(int)");
     private static final Set<String> CONSTANTS = Set.of("DONE", "REFUSED", "FULL", "NONE");
+    /** Rules 6, 4 and 13; a lambda and its like show in the compiled methods. */
     private static final List<String> BANNED = List.of(
-            "throw", "throws", "try", "catch", "finally", "synchronized", "assert", "import", "package",
-            "->", "::", "hashCode", "toString", "System.nanoTime", "currentTimeMillis", "Random", "Thread");
+            "\\bthrows?\\b", "\\b(try|catch|finally)\\b", "\\bsynchronized\\b", "\\bassert\\b", "\\bpackage\\b",
+            "::", "\\bhashCode\\b", "Exact\\b", "\\b(nanoTime|currentTimeMillis|random|Random|Thread|getenv)\\b",
+            "\\bjava\\.(io|nio|net|time)\\b");
+    private static final Set<String> IMPORTS = Set.of("java.util.ArrayList", "java.util.Arrays", "java.util.Iterator",
+            "java.util.List");
     private static final Due due = new Due();
 
     public static void main(String[] args) throws IOException {
@@ -46,6 +50,7 @@ public final class FaceTest {
         Set<String> names = publicNames();
         for (Method method : face.getDeclaredMethods()) {
             String signature = signatureOf(method);
+            due.isTrue(signature + " is no lambda", !method.getName().startsWith("lambda$"));
             if (Modifier.isPublic(method.getModifiers())) {
                 seen.add(signature);
                 due.isTrue(signature + " answers int", method.getReturnType() == int.class);
@@ -104,18 +109,22 @@ public final class FaceTest {
             }
             due.isTrue(each + " has some twenty fields", ownFields <= 20);
             for (Method method : each.getDeclaredMethods()) {
+                due.isTrue(method + " is no lambda", !method.getName().startsWith("lambda$"));
                 due.isTrue(method + " has at most seven parameters", method.getParameterCount() <= 7);
-                due.isTrue(method + " has a name of its own", !publicNames().contains(method.getName()));
+                due.isTrue(method + " has a name of its own",
+                        !Modifier.isPrivate(method.getModifiers()) || !publicNames().contains(method.getName()));
             }
         }
     }
 
     private static void bannedWords(Path program) throws IOException {
         String code = Files.readString(program).replaceAll("(?s)/\\*.*?\\*/", "").replaceAll("//[^\n]*", "");
-        for (String word : BANNED) {
-            boolean letters = Character.isLetter(word.charAt(0));
-            Matcher found = Pattern.compile(letters ? "\\b" + Pattern.quote(word) + "\\b" : word).matcher(code);
-            due.isTrue("no " + word, !found.find());
+        Matcher imports = Pattern.compile("\\bimport\\s+([\\w.*]+)").matcher(code);
+        while (imports.find()) {
+            due.isTrue("no import of " + imports.group(1), IMPORTS.contains(imports.group(1)));
+        }
+        for (String words : BANNED) {
+            due.isTrue("nothing of " + words, !Pattern.compile(words).matcher(code).find());
         }
     }
 }

@@ -2,8 +2,9 @@ import java.util.Random;
 
 /** All promises: long runs of calls by chance, from fixed seeds, compared with the model. */
 public final class ModelTest {
-    private static final int OBJECTS = 600;
-    private static final int CALLS = 250;
+    private static final int OBJECTS = 6000;
+    /** Nothing is promised about later calls. */
+    private static final int CALLS_OF_AN_OBJECT = 512;
     private static final Due due = new Due();
 
     private final Random random;
@@ -12,6 +13,8 @@ public final class ModelTest {
     private final Model model = new Model();
     /** How many of a hundred methods don't return. */
     private final int troubled;
+    private int changesLeft;
+    private int looksLeft;
 
     private ModelTest(int seed) {
         random = new Random(seed);
@@ -26,23 +29,51 @@ public final class ModelTest {
         due.end();
     }
 
+    /** The tree grows first; then come runs, what they left behind is looked at, and the tree changes. */
     private void callAll() {
-        for (int call = 0; call < CALLS; call++) {
-            int dice = random.nextInt(100);
-            if (dice < 10) {
-                callContainer();
-            } else if (dice < 22) {
-                callTest();
-            } else if (dice < 32) {
-                callMark();
-            } else if (dice < 72) {
-                callMethod();
-            } else if (dice < 78) {
-                callWithout();
+        changesLeft = 30 + random.nextInt(90);
+        for (int call = 0; call < CALLS_OF_AN_OBJECT; call++) {
+            if (looksLeft > 0) {
+                looksLeft--;
+                look();
+            } else if (changesLeft > 0) {
+                changesLeft--;
+                change();
             } else {
                 callRun();
+                looksLeft = random.nextInt(120);
+                changesLeft = random.nextInt(20);
             }
-            due.is(name + "nodes", engine.count(0), model.count(0));
+        }
+    }
+
+    private void change() {
+        int dice = random.nextInt(78);
+        if (dice < 10) {
+            callContainer();
+        } else if (dice < 22) {
+            callTest();
+        } else if (dice < 32) {
+            callMark();
+        } else if (dice < 72) {
+            callMethod();
+        } else {
+            callWithout();
+        }
+    }
+
+    private void look() {
+        int dice = random.nextInt(100);
+        int i = number(0, Math.max(0, model.count(1) - 1));
+        if (dice < 25) {
+            int what = number(0, 10);
+            due.is(name + "count " + what, engine.count(what), model.count(what));
+        } else if (dice < 75) {
+            int what = number(0, 7);
+            due.is(name + "event " + i + " " + what, engine.event(i, what), model.event(i, what));
+        } else {
+            int k = number(0, 3);
+            due.is(name + "trouble " + i + " " + k, engine.trouble(i, k), model.trouble(i, k));
         }
     }
 
@@ -60,7 +91,7 @@ public final class ModelTest {
     }
 
     private int node() {
-        return number(0, engine.count(0) - 1);
+        return number(0, model.count(0) - 1);
     }
 
     private int few(int low, int high) {
@@ -115,20 +146,5 @@ public final class ModelTest {
         int unwanted = chance(50) ? 0 : mask();
         int broken = chance(50) ? 0 : number(0, 9);
         due.is(name + "run", engine.run(wanted, unwanted, broken), model.run(wanted, unwanted, broken));
-        compareGetters();
-    }
-
-    private void compareGetters() {
-        for (int what = -1; what <= 11; what++) {
-            due.is(name + "count " + what, engine.count(what), model.count(what));
-        }
-        for (int i = -1; i <= model.count(1); i++) {
-            for (int what = -1; what <= 8; what++) {
-                due.is(name + "event " + i + " " + what, engine.event(i, what), model.event(i, what));
-            }
-            for (int k = -1; k <= 5; k++) {
-                due.is(name + "trouble " + i + " " + k, engine.trouble(i, k), model.trouble(i, k));
-            }
-        }
     }
 }
