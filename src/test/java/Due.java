@@ -1,8 +1,27 @@
 /** Compares answers with what is due and ends the program with 1 if one was wrong. */
 final class Due {
+    private static final long LONGEST_TEST_MILLIS = 120_000;
+
     private int wrong;
     private int asked;
-    private String sentence = "";
+    private volatile String sentence = "";
+
+    Due() {
+        Thread watch = new Thread(this::failIfLate);
+        watch.setDaemon(true);
+        watch.start();
+    }
+
+    /** A call that never ends must fail its test, not hold up all that come behind it. */
+    private void failIfLate() {
+        try {
+            Thread.sleep(LONGEST_TEST_MILLIS);
+        } catch (InterruptedException stopped) {
+            return;
+        }
+        System.out.println(sentence + "a call has not ended");
+        Runtime.getRuntime().halt(1);
+    }
 
     /** What is asked from now on tells of these words of the document. */
     void sentence(String words) {
